@@ -528,12 +528,10 @@ public final class HullLine {
     private void passMinute(Boat b) {
         if (b.state == MOORED) {
             charge(b, b.cause, 1);
-        } else if (b.state == AIR) {
-            fly(b);
         }
-    }
-
-    private void fly(Boat b) {
+        if (b.state != AIR) {
+            return;
+        }
         b.duty++;
         b.air++;
         if (b.air < b.minutes) {
@@ -820,7 +818,7 @@ public final class HullLine {
             }
             int before = NONE;
             int at = heads[subject];
-            for (int step = 0; step < told && isFact(at) && times[at] > time; step++) {
+            for (int step = 0; step < told && at >= 0 && at < told && times[at] > time; step++) {
                 before = at;
                 at = followers[at];
             }
@@ -850,17 +848,13 @@ public final class HullLine {
                 return without;
             }
             int at = heads[subject];
-            for (int step = 0; step < told && isFact(at); step++) {
+            for (int step = 0; step < told && at >= 0 && at < told; step++) {
                 if (at < n && times[at] <= time) {
                     return values[at];
                 }
                 at = followers[at];
             }
             return without;
-        }
-
-        private boolean isFact(int number) {
-            return within(number, 0, told - 1);
         }
     }
 
@@ -950,7 +944,7 @@ public final class HullLine {
         }
 
         private int byteAt(int place) {
-            return within(place, 0, length - 1) && place < SIZE ? bytes[place] & 255 : NONE;
+            return place >= 0 && place < length && place < SIZE ? bytes[place] & 255 : NONE;
         }
 
         private static boolean isBlank(int c) {
