@@ -264,6 +264,7 @@ public final class PromisesTest {
         x.wind(0, 10, 1);
         x.wind(1, 12, -1);
         c.eq("without", x.windOf(0, 9, 4), 0);
+        c.eq("day 0", x.windOf(0, 0, 4), 0);
         c.eq("the last told of one day", x.windOf(0, 19, 4), 1);
         c.eq("by 2", x.windOf(0, 19, 2), 5);
         c.eq("by 0", x.windOf(0, 19, 0), 0);
@@ -344,6 +345,16 @@ public final class PromisesTest {
         fault("lift  ", 1, 6);
         fault("land if", 1, 7);
         fault("liftif day=0;", 1, 0);
+        fault("liftz if day=0;", 1, 0);
+        fault("gift if day=0;", 1, 0);
+        fault("alift if day=0;", 1, 0);
+        fault("lift zf day=0;", 1, 5);
+        fault("lift if zday=0;", 1, 8);
+        fault("lift if day=0 nd day=0;", 1, 14);
+        fault("lift{if day=0;", 1, 4);
+        fault("lift`if day=0;", 1, 4);
+        fault("lift at /", 1, 8);
+        fault("lift at :", 1, 8);
         fault("lift day=0;", 1, 5);
         fault("lift at if day=0;", 1, 8);
         fault("lift at 5 day=0;", 1, 10);
@@ -447,16 +458,19 @@ public final class PromisesTest {
         x.swell(0, 54, 1);
         x.bag(0, 1, 70, 0);
         x.bag(0, 1, 80, 0);
-        x.load(0, 0);
-        x.load(1, 0);
+        x.bag(0, 1, 90, 0);
+        x.bag(0, 1, 95, 0);
+        for (int i = 0; i < 4; i++) {
+            x.load(i, 0);
+        }
         worth(x, "swell", 6);
         worth(x, "hour", 5);
         worth(x, "light", 1);
         worth(x, "free", 3);
         worth(x, "fuel", 150);
-        worth(x, "weight", 10000 + 900 + 150);
+        worth(x, "weight", 10000 + 900 + 335);
         worth(x, "day", 2);
-        worth(x, "bags", 2);
+        worth(x, "bags", 4);
         HullLine y = new HullLine();
         y.stop(1, 0, false);
         plainBoat(y, 0);
@@ -560,7 +574,42 @@ public final class PromisesTest {
         c.eq("no cause", x.of(0, 5), -1);
         c.eq("one lift", x.count(6), 1);
         water();
+        waterOfEachSwell();
         duty();
+        justEnoughFuel();
+    }
+
+    /** The heaviest weight, to the pound, that is lifted from each swell. */
+    private static void waterOfEachSwell() {
+        int[] lifts = {12499 - 998, 12499 - 499, 12499, 12499 - 499, 12499 - 998, 12499 - 1497, 12499 - 1996};
+        for (int s = 0; s < lifts.length; s++) {
+            for (int more = 0; more <= 1; more++) {
+                HullLine x = two();
+                x.swell(0, 0, s);
+                x.boat(0, lifts[s] - 360 + more, 12499, 120, 60, 60, 0, 2);
+                x.fuel(0, 2);
+                c.eq("from swell " + s + ", " + more + " more", x.lift(0, 0), more == 0 ? 60 : -3);
+            }
+        }
+    }
+
+    private static void justEnoughFuel() {
+        for (int tank = 59; tank <= 61; tank++) {
+            HullLine x = two();
+            x.boat(0, 10000, 20000, 120, 60, tank, 0, 2);
+            x.fuel(0, 2);
+            c.eq("a tank of " + tank, x.lift(0, 0), tank < 60 ? -4 : 60);
+            if (tank >= 60) {
+                x.go(60);
+                c.eq("lands", x.of(0, 0), 0);
+                c.eq("left", x.of(0, 2), tank - 60);
+            }
+        }
+        HullLine y = two();
+        y.boat(0, 10000, 20000, 120, 59, 59, 0, 2);
+        y.fuel(0, 2);
+        y.wind(0, 0, 1);
+        c.eq("60 minutes of 59.5 burn 59", y.lift(0, 0), 60);
     }
 
     private static void water() {
@@ -605,6 +654,18 @@ public final class PromisesTest {
         c.yes("rest", x.rest(0));
         x.go(480);
         c.eq("after rest", x.lift(0, 0), 420);
+        HullLine y = new HullLine();
+        y.stop(1, 9, true);
+        y.stop(1, 0, true);
+        y.leg(0, 1, 420);
+        y.leg(0, 1, 421);
+        y.drums(0, 99);
+        y.boat(0, 1000, 20000, 60, 10, 900, 0, 9);
+        y.fuel(0, 10);
+        y.lift(0, 0);
+        y.go(420);
+        c.eq("841 in all", y.lift(0, 1), -5);
+        c.eq("840 in all", y.lift(0, 0), 420);
     }
 
     private static void turning() {
@@ -699,6 +760,14 @@ public final class PromisesTest {
         y.fuel(0, 1);
         // out at 140, back at 260, 5 gallons a minute: 10 minutes in all
         c.eq("6 and 4", y.point(0, 0), 6);
+        for (int tank = 60; tank <= 64; tank++) {
+            HullLine z = two();
+            z.boat(0, 1000, 9000, 120, 60, tank, 0, 2);
+            z.fuel(0, 2);
+            z.lift(0, 0);
+            z.go(60);
+            c.eq("with " + (tank - 60) + " gallons", z.point(0, 0), tank < 62 ? -1 : tank < 64 ? 1 : 2);
+        }
     }
 
     private static void going() {
@@ -723,7 +792,9 @@ public final class PromisesTest {
         y.load(0, 0);
         y.fuel(0, 2);
         y.go(5);
-        c.eq("no cause, none lost", y.mail(0, 11), 0);
+        for (int i = 10; i <= 16; i++) {
+            c.eq("no cause, none lost by " + (i - 10), y.mail(0, i), 0);
+        }
         y.lift(0, 0);
         y.go(5);
         c.eq("by the water", y.mail(0, 11), 5);
