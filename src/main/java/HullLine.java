@@ -844,7 +844,7 @@ public final class HullLine {
         }
 
         private int known(int subject, int time, int n, int without) {
-            if (!within(subject, 0, SUBJECTS - 1)) {
+            if (subject < 0 || subject >= SUBJECTS) {
                 return without;
             }
             int at = heads[subject];
@@ -983,15 +983,22 @@ public final class HullLine {
             lines = 0;
             tape.rewind();
             for (int i = 0; i <= MAX_LINES && tape.kind != Tape.END; i++) {
-                int fault = readLine(tape);
+                int fault = readHead(tape);
+                if (fault == 0) {
+                    fault = readTerms(tape);
+                }
+                if (fault == 0) {
+                    fault = readClose(tape);
+                }
                 if (fault != 0) {
                     return fault + 10 * tape.start;
                 }
+                lines++;
             }
             return 0;
         }
 
-        private int readLine(Tape tape) {
+        private int readHead(Tape tape) {
             boolean landing = tape.isWord("land");
             if (!landing && !tape.isWord("lift")) {
                 return FAULT_PLACE;
@@ -1000,24 +1007,9 @@ public final class HullLine {
                 return FAULT_LINE;
             }
             ofLanding[lines] = landing;
-            tape.readToken();
-            int fault = readPlace(tape);
-            if (fault == 0) {
-                fault = readTerms(tape);
-            }
-            if (fault != 0) {
-                return fault;
-            }
-            if (tape.sign() != ';') {
-                return FAULT_PLACE;
-            }
-            tape.readToken();
-            lines++;
-            return 0;
-        }
-
-        private int readPlace(Tape tape) {
             atStop[lines] = NONE;
+            termCounts[lines] = 0;
+            tape.readToken();
             if (!tape.isWord("at")) {
                 return 0;
             }
@@ -1033,11 +1025,18 @@ public final class HullLine {
             return 0;
         }
 
+        private static int readClose(Tape tape) {
+            if (tape.sign() != ';') {
+                return FAULT_PLACE;
+            }
+            tape.readToken();
+            return 0;
+        }
+
         private int readTerms(Tape tape) {
             if (!tape.isWord("if")) {
                 return FAULT_PLACE;
             }
-            termCounts[lines] = 0;
             for (int i = 0; i <= MAX_TERMS; i++) {
                 tape.readToken();
                 int fault = readTerm(tape);
