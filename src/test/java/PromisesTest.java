@@ -248,6 +248,11 @@ public final class PromisesTest {
         c.eq("at 20", x.swellOf(0, 20, 5), 7);
         c.eq("another stop", x.swellOf(1, 20, 5), 8);
         c.eq("another stop, by 3", x.swellOf(1, 20, 3), 3);
+        HullLine y = two();
+        y.swell(0, 10, 5);
+        y.swell(0, 5, 8);
+        c.eq("an earlier hour told later", y.swellOf(0, 12, 2), 5);
+        c.eq("that hour", y.swellOf(0, 9, 2), 8);
         int[][] wrong = {{2, 0, 0}, {-1, 0, 0}, {0, -1, 0}, {0, 2400, 0}, {0, 0, -1}, {0, 0, 6}, {MIN, 0, 0}, {0, MAX, 0},
             {0, 0, MAX}};
         for (int[] w : wrong) {
@@ -369,6 +374,9 @@ public final class PromisesTest {
         fault("lift if day 0;", 1, 12);
         fault("lift if day;0;", 1, 11);
         fault("lift if day==0;", 1, 12);
+        fault("lift if day#0;", 1, 11);
+        fault("lift if day 123456 0;", 1, 12);
+        fault("lift if day=0 # lift", 1, 14);
         fault("lift if day=x;", 1, 12);
         fault("lift if day=123456;", 1, 12);
         fault("lift if day=-1;", 1, 12);
@@ -428,7 +436,12 @@ public final class PromisesTest {
         x.boat(0, 1000, 9000, 60, 10, 50, 0, 2);
         x.boat(0, 1000, 9000, 60, 10, 50, 0, 2);
         c.eq("all are so", x.barred(0, false), -1);
+        Check.rules(x, "lift if day=9;");
+        c.eq("other rules", x.barred(0, false), 0);
         x.rules();
+        c.eq("no rules", x.barred(0, false), -1);
+        x.rules();
+        c.eq("no rules again", x.barred(0, false), -1);
         x.fuel(0, 2);
         x.lift(0, 0);
         c.eq("not moored", x.barred(0, false), -2);
@@ -539,6 +552,28 @@ public final class PromisesTest {
         y.wind(0, 0, 60);
         y.fuel(0, 10);
         c.eq("20 miles an hour at least", y.lift(0, 0), 360);
+        HullLine z = two();
+        z.leg(0, 1, 20);
+        z.boat(0, 1000, 9000, 109, 61, 900, 10, 2);
+        z.fuel(0, 10);
+        z.bag(0, 1, 1, 1);
+        z.load(0, 0);
+        c.eq("20 miles at 109: a little more than 11 minutes", z.lift(0, 1), 12);
+        c.eq("no wind, none lost", z.mail(0, 15), 0);
+        z.go(12);
+        c.eq("12.2 gallons", z.of(0, 2), 500 - 13);
+        z.wind(1, 0, 60);
+        z.unload(0);
+        c.eq("49 miles an hour", z.lift(0, 1), 25);
+        z.go(25);
+        c.eq("25.4 gallons", z.of(0, 2), 500 - 13 - 26);
+        HullLine w = two();
+        w.leg(0, 1, 61);
+        w.boat(0, 1000, 9000, 60, 61, 900, 10, 2);
+        w.fuel(0, 10);
+        c.eq("61 minutes", w.lift(0, 1), 61);
+        w.go(61);
+        c.eq("a little more than 62 gallons", w.of(0, 2), 500 - 63);
     }
 
     private static void refusing() {
@@ -960,6 +995,12 @@ public final class PromisesTest {
         y.turn(0);
         y.go(61);
         c.eq("sunk where it went back to", y.of(0, 0) * 10 + y.of(0, 1), 20);
+        c.yes("raised", x.raise(0));
+        c.eq("refused", x.lift(0, 0), -4);
+        x.go(5);
+        c.eq("nothing is lost by a bag that is lost", x.mail(0, 12), 0);
+        Check.rules(x, "lift if bags=0;");
+        c.eq("no bags aboard", x.barred(0, false), -1);
     }
 
     private static void resting() {
@@ -1425,6 +1466,24 @@ public final class PromisesTest {
         c.eq("earlier by six legs, but five at most", x.way(0, 0, 6, 0, 1, 0), 240 + 40);
         c.eq("by two legs", x.way(0, 0, 2, 0, 1, 10), 2);
         c.eq("by two legs", x.way(0, 0, 2, 0, 1, 11), 0);
+        noStopTwice();
+    }
+
+    /** Going round once more would pass the time till the wind is good. */
+    private static void noStopTwice() {
+        HullLine x = new HullLine();
+        x.stop(1, 0, true);
+        x.stop(1, 0, true);
+        x.stop(1, 0, true);
+        x.leg(0, 1, 20);
+        x.leg(0, 2, 900);
+        x.boat(0, 1000, 9000, 60, 10, 3000, 0, 2);
+        x.wind(1, 0, -60);
+        x.wind(1, 1, 60);
+        c.eq("by a bad wind", x.way(0, 0, 2, 1430, 2, 0), 1430 + 2700);
+        c.eq("one leg", x.way(0, 0, 2, 1430, 2, 1), 1);
+        c.eq("by a good wind", x.way(0, 0, 2, 1440, 2, 0), 1440 + 450);
+        c.eq("from a stop ahead of it", x.way(0, 1, 2, 1430, 2, 0), 1450 + 450);
     }
 
     private static void counting() {
