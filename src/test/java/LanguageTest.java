@@ -1,3 +1,5 @@
+import com.sun.management.ThreadMXBean;
+import java.lang.management.ManagementFactory;
 import java.lang.reflect.Field;
 import java.lang.reflect.Method;
 import java.lang.reflect.Modifier;
@@ -6,6 +8,7 @@ import java.nio.file.Files;
 import java.nio.file.Path;
 import java.util.Arrays;
 import java.util.HashSet;
+import java.util.NoSuchElementException;
 import java.util.Set;
 import java.util.TreeSet;
 import java.util.regex.Matcher;
@@ -32,6 +35,8 @@ public final class LanguageTest {
         face();
         c.promise("members");
         members();
+        c.promise("room");
+        room();
         c.promise("text");
         text(Files.readString(Path.of("src/main/java/HullLine.java"), StandardCharsets.ISO_8859_1));
         c.finish();
@@ -45,10 +50,14 @@ public final class LanguageTest {
                 String types = Arrays.toString(m.getParameterTypes()).replaceAll("[\\[\\] ]", "");
                 got.add(m.getReturnType() + " " + m.getName() + "(" + types + ")");
                 c.yes(m + " is public and of an object", m.getModifiers() == Modifier.PUBLIC);
+                boolean throwing = m.getName().equals("mail") || m.getName().equals("of");
+                c.yes(m + " tells what it throws", Arrays.equals(m.getExceptionTypes(),
+                    throwing ? new Class<?>[] {NoSuchElementException.class} : new Class<?>[0]));
             }
         }
         c.yes("the face is " + got, got.equals(due));
         c.eq("constructors", HullLine.class.getDeclaredConstructors().length, 1);
+        c.eq("public, of nothing", HullLine.class.getConstructors()[0].getParameterCount(), 0);
         c.yes("public, final", HullLine.class.getModifiers() == (Modifier.PUBLIC | Modifier.FINAL));
         int open = 0;
         for (Field f : HullLine.class.getDeclaredFields()) {
@@ -93,6 +102,46 @@ public final class LanguageTest {
             c.yes(m + " takes seven at most", ofFace || m.getParameterCount() <= 7);
             c.yes(m + " has a name of its own", ofFace || !publicNames.contains(m.getName()));
         }
+    }
+
+    /** What is made, counted in bytes: far below what a run's room has, and nothing at all by a call that keeps nothing. */
+    private static void room() {
+        ThreadMXBean thread = (ThreadMXBean) ManagementFactory.getThreadMXBean();
+        long before = thread.getCurrentThreadAllocatedBytes();
+        HullLine x = fullLine();
+        c.yes("a full line in 64 KiB", thread.getCurrentThreadAllocatedBytes() - before < 65536);
+        before = thread.getCurrentThreadAllocatedBytes();
+        for (int i = 0; i < 100; i++) {
+            x.way(0, 0, 6, i, 0, 0);
+        }
+        c.yes("a hundred ways in 64 KiB", thread.getCurrentThreadAllocatedBytes() - before < 65536);
+        before = thread.getCurrentThreadAllocatedBytes();
+        for (int i = 0; i < 99; i++) {
+            x.go(1440);
+            x.feed(i, i, i, i, i);
+            x.rules();
+            x.lift(i % 6, i % 30);
+            x.suspects();
+        }
+        c.yes("a hundred days in 8 KiB", thread.getCurrentThreadAllocatedBytes() - before < 8192);
+    }
+
+    private static HullLine fullLine() {
+        HullLine x = new HullLine();
+        for (int i = 0; i < 12; i++) {
+            x.stop(4, 60, true);
+        }
+        for (int i = 0; i < 30; i++) {
+            x.leg(i % 12, (i + 1 + i / 12) % 12, 50);
+            x.bag(i % 12, (i + 1) % 12, 5, 5);
+        }
+        for (int i = 0; i < 6; i++) {
+            x.boat(i, 1000, 9000, 100, 50, 1000, 500, 3);
+        }
+        for (int i = 0; i < 160; i++) {
+            x.swell(i % 12, i, i % 10);
+        }
+        return x;
     }
 
     private static void text(String all) {
